@@ -1,0 +1,95 @@
+import java.io.IOException;
+import java.lang.reflect.Member;
+import java.lang.reflect.Modifier;
+import java.nio.file.Files;
+import java.nio.file.Path;
+import java.util.Arrays;
+import java.util.Set;
+import java.util.TreeSet;
+import java.util.regex.Matcher;
+import java.util.regex.Pattern;
+
+/** The rules of ../shared/LANGUAGE.md, as far as a test can see them. */
+public final class LanguageTests {
+    private static final String FACE = "BAD STATE FULL NONE feed end text fault rule judge suit tenth alter amend crime"
+        + " can give appeal days docket hears best deter order spare hopeless mean luck see forget kinds terms ask drift"
+        + " keep back sheet lay read torn count";
+
+    private static String source() throws IOException {
+        String whole = Files.readString(Path.of("src/main/java/JudgeFirst.java"));
+        return whole.replaceAll("(?s)/\\*.*?\\*/", "").replaceAll("//[^\n]*", "");
+    }
+
+    public void rule01Face() {
+        Set<String> face = new TreeSet<>(Arrays.asList(FACE.split(" ")));
+        Set<String> seen = new TreeSet<>();
+        addVisible(seen, JudgeFirst.class.getDeclaredMethods());
+        addVisible(seen, JudgeFirst.class.getDeclaredFields());
+        Due.due(face.toString(), seen.toString());
+        Due.due(1, JudgeFirst.class.getConstructors().length);
+        Due.due(1, JudgeFirst.class.getDeclaredConstructors().length);
+        Due.due(Modifier.PUBLIC | Modifier.FINAL, JudgeFirst.class.getModifiers());
+    }
+
+    private static void addVisible(Set<String> seen, Member[] members) {
+        for (Member m : members) {
+            if (!Modifier.isPrivate(m.getModifiers()) && !m.isSynthetic()) {
+                seen.add(m.getName());
+            }
+        }
+    }
+
+    public void rule01NoOwnMethodBearsAPublicName() {
+        Set<String> face = new TreeSet<>(Arrays.asList(FACE.split(" ")));
+        for (Class<?> inside : JudgeFirst.class.getDeclaredClasses()) {
+            Arrays.stream(inside.getDeclaredMethods()).filter(m -> face.contains(m.getName())).forEach(m -> {
+                throw new AssertionError(inside.getName() + "." + m.getName());
+            });
+        }
+    }
+
+    public void rule02To06NoForbiddenWord() throws IOException {
+        Matcher m = Pattern.compile("\\b(throw|throws|try|catch|synchronized|assert|import|package|protected|goto|native"
+            + "|volatile|transient|System|Object|Exception)\\b|->|::|@|\\bexact|Exact\\b").matcher(source());
+        if (m.find()) {
+            throw new AssertionError("there is " + m.group());
+        }
+    }
+
+    public void rule05StaticFieldsAreConstants() {
+        for (Class<?> inside : JudgeFirst.class.getDeclaredClasses()) {
+            constants(inside);
+            Due.due(1, Modifier.isStatic(inside.getModifiers()) ? 1 : 0);
+        }
+        constants(JudgeFirst.class);
+    }
+
+    private static void constants(Class<?> whose) {
+        Arrays.stream(whose.getDeclaredFields()).filter(f -> Modifier.isStatic(f.getModifiers())).forEach(f -> {
+            Due.due(1, Modifier.isFinal(f.getModifiers()) && f.getType() == int.class ? 1 : 0);
+        });
+    }
+
+    public void rule11Sizes() throws IOException {
+        Due.due(1, JudgeFirst.class.getDeclaredClasses().length + 1 <= 12 ? 1 : 0);
+        for (Class<?> inside : JudgeFirst.class.getDeclaredClasses()) {
+            long many = Arrays.stream(inside.getDeclaredFields()).filter(f -> !Modifier.isStatic(f.getModifiers())).count();
+            Due.due(1, many <= 20 ? 1 : 0);
+        }
+    }
+
+    /** Only constructors make anything: a call makes no object, so a run of any length fits its room. */
+    public void rule12ObjectsAreMadeInConstructorsAlone() throws IOException {
+        String method = "";
+        Pattern head = Pattern.compile("^ +(?:public |private |static |final )*(?:[\\w\\[\\]]+ )?(\\w+)\\([^)]*\\) \\{$");
+        for (String line : source().split("\n")) {
+            Matcher m = head.matcher(line);
+            if (m.matches() && !m.group(1).matches("if|for|while|switch")) {
+                method = m.group(1);
+            }
+            if (line.contains("new ") && !Character.isUpperCase(method.charAt(0))) {
+                throw new AssertionError(method + " makes an object: " + line.trim());
+            }
+        }
+    }
+}
