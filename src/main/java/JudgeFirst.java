@@ -80,9 +80,7 @@ public final class JudgeFirst {
             return -10 - tape.place;
         }
         court.copy(trial);
-        for (int k = 0; k < images.length; k++) {
-            images[k].there = false;
-        }
+        dropImages();
         return lines;
     }
 
@@ -386,6 +384,7 @@ public final class JudgeFirst {
         if (s == null || !within(what, 0, 2)) {
             return BAD;
         }
+        clues.gather();
         int many = 0;
         int first = NONE;
         int last = NONE;
@@ -622,10 +621,22 @@ public final class JudgeFirst {
         return k >= 0 && k < sheets.length ? sheets[k] : null;
     }
 
+    private void dropImages() {
+        for (int k = 0; k < IMAGES; k++) {
+            Image image = imageAt(k);
+            if (image != null) {
+                image.there = false;
+            }
+        }
+    }
+
     private int imagesThere() {
         int many = 0;
-        for (int k = 0; k < images.length; k++) {
-            many += images[k].there ? 1 : 0;
+        for (int k = 0; k < IMAGES; k++) {
+            Image image = imageAt(k);
+            if (image != null && image.there) {
+                many++;
+            }
         }
         return many;
     }
@@ -822,21 +833,38 @@ public final class JudgeFirst {
         }
 
         void copy(Court from) {
-            judgeCount = from.judgeCount;
-            for (int j = 0; j < from.judgeCount && j < judges.length && j < from.judges.length; j++) {
-                judges[j].copy(from.judges[j]);
-            }
-            suitCount = from.suitCount;
-            for (int c = 0; c < from.suitCount && c < suits.length && c < from.suits.length; c++) {
-                suits[c].copy(from.suits[c]);
-            }
-            sightCount = from.sightCount;
-            for (int i = 0; i < from.sightCount && i < sights.length && i < from.sights.length; i++) {
-                Sight seen = from.sights[i];
-                sights[i].begin(seen.judge, seen.suit, seen.tenth);
-            }
             day = from.day;
             crime = from.crime;
+            judgeCount = from.judgeCount;
+            for (int j = 0; j < judgeCount; j++) {
+                copyJudge(judgeAt(j), from.judgeAt(j));
+            }
+            suitCount = from.suitCount;
+            for (int c = 0; c < suitCount; c++) {
+                copySuit(suitAt(c), from.suitAt(c));
+            }
+            sightCount = from.sightCount;
+            for (int i = 0; i < sightCount; i++) {
+                copySight(sightAt(i), from.sightAt(i));
+            }
+        }
+
+        private static void copyJudge(Judge to, Judge from) {
+            if (to != null && from != null) {
+                to.copy(from);
+            }
+        }
+
+        private static void copySuit(Suit to, Suit from) {
+            if (to != null && from != null) {
+                to.copy(from);
+            }
+        }
+
+        private static void copySight(Sight to, Sight from) {
+            if (to != null && from != null) {
+                to.begin(from.judge, from.suit, from.tenth);
+            }
         }
 
         Judge judgeAt(int j) {
@@ -868,11 +896,14 @@ public final class JudgeFirst {
         }
 
         boolean addSight(int j, int c, int t) {
-            if (sightCount < 0 || sightCount >= sights.length) {
+            if (sightCount >= sights.length) {
                 return false;
             }
-            sights[sightCount].begin(j, c, t);
             sightCount++;
+            Sight seen = sightAt(sightCount - 1);
+            if (seen != null) {
+                seen.begin(j, c, t);
+            }
             return true;
         }
 
@@ -1157,7 +1188,9 @@ public final class JudgeFirst {
                 token = NAME;
                 next = behind(start, 'a', 'z');
             } else if (c >= '0' && c <= '9') {
-                takeNumber();
+                next = behind(start, '0', '9');
+                token = next - start > 2 ? BROKEN : NUMBER;
+                value = token == NUMBER ? valueThere() : 0;
             } else if (c == ';') {
                 token = SIGN;
                 next = start + 1;
@@ -1169,13 +1202,12 @@ public final class JudgeFirst {
             }
         }
 
-        private void takeNumber() {
-            next = behind(start, '0', '9');
-            token = next - start > 2 ? BROKEN : NUMBER;
-            value = 0;
-            for (int i = start; i < next && token == NUMBER; i++) {
-                value = value * 10 + byteAt(i) - '0';
+        private int valueThere() {
+            int sum = 0;
+            for (int i = start; i < next; i++) {
+                sum = sum * 10 + byteAt(i) - '0';
             }
+            return sum;
         }
 
         /** The place behind the bytes from low to high that stand from a place on. */
@@ -1333,7 +1365,7 @@ public final class JudgeFirst {
         void search(Court from) {
             mostHeard = NONE;
             leastCrime = from.crime;
-            choose(from, 0, 0, from.crime);
+            choose(this, from, 0, 0, from.crime);
         }
 
         int suitOf(int j) {
@@ -1341,21 +1373,21 @@ public final class JudgeFirst {
         }
 
         /** All rosters by order, so that of equal ones the first is met first. */
-        private void choose(Court from, int j, int taken, int crime) {
+        private static void choose(Roster at, Court from, int j, int taken, int crime) {
             Judge h = from.judgeAt(j);
-            if (h == null || j < 0 || j >= picks.length) {
-                weigh(Integer.bitCount(taken), crime);
+            if (h == null || j < 0 || j >= at.picks.length) {
+                at.weigh(Integer.bitCount(taken), crime);
                 return;
             }
             for (int c = 0; c < from.suitCount; c++) {
                 Suit s = from.suitAt(c);
                 if (s != null && (taken >> c & 1) == 0 && from.canHear(s, h, s.least)) {
-                    picks[j] = c;
-                    choose(from, j + 1, taken | 1 << c, lessCrime(crime, s.least));
+                    at.picks[j] = c;
+                    choose(at, from, j + 1, taken | 1 << c, lessCrime(crime, s.least));
                 }
             }
-            picks[j] = NONE;
-            choose(from, j + 1, taken, crime);
+            at.picks[j] = NONE;
+            choose(at, from, j + 1, taken, crime);
         }
 
         private void weigh(int heard, int crime) {
@@ -1372,9 +1404,18 @@ public final class JudgeFirst {
     /** What is told by all that is seen. */
     private static final class Clues {
         final Court court;
+        // the kinds of each judge, so that they are not told anew for each sentence of a case
+        final int[] gathered;
 
         Clues(Court whose) {
             court = whose;
+            gathered = new int[MOST_JUDGES];
+        }
+
+        void gather() {
+            for (int j = 0; j < gathered.length; j++) {
+                gathered[j] = kindsOf(j);
+            }
         }
 
         int kindsOf(int j) {
@@ -1410,10 +1451,10 @@ public final class JudgeFirst {
             return false;
         }
 
-        /** Whether a case may have been given n, by all that is seen of it. */
+        /** Whether a case may have been given n, by all that is seen of it and the kinds that are gathered. */
         boolean allow(int c, int n) {
-            for (int j = 0; j < court.judgeCount; j++) {
-                if (isSeen(j, c) && !someKind(j, c, n)) {
+            for (int j = 0; j < court.judgeCount && j < gathered.length; j++) {
+                if (isSeen(j, c) && !someKind(gathered[j], j, c, n)) {
                     return false;
                 }
             }
@@ -1430,8 +1471,7 @@ public final class JudgeFirst {
             return false;
         }
 
-        private boolean someKind(int j, int c, int n) {
-            int kinds = kindsOf(j);
+        private boolean someKind(int kinds, int j, int c, int n) {
             for (int kind = 0; kind < KINDS; kind++) {
                 if ((kinds >> kind & 1) != 0 && agrees(j, c, tenthBy(kind, n))) {
                     return true;

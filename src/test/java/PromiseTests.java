@@ -150,10 +150,14 @@ public final class PromiseTests {
     public void promise04ScarsAndAwayAreAsAtFirst() {
         JudgeFirst x = told("plain 9 4; stocks 5 9 0;");
         x.give(0, 0, 9);
+        x.docket(3, 0);
         Due.feed(x, "plain 9 4; stocks 5 9 0;");
         due(2, x.text());
         due(0, x.judge(0, 3));
         due(0, x.judge(0, 4));
+        due(0, x.suit(0, 4));
+        due(NONE, x.suit(0, 5));
+        due(0, x.judge(0, 5));
     }
 
     public void promise04EmptyText() {
@@ -201,6 +205,10 @@ public final class PromiseTests {
         faulty("`", 0, 1);
         faulty("crime 5:", 7, 1);
         faulty("crime /5;", 6, 1);
+        faulty("crime!5;", 5, 1);
+        faulty("crime 5;" + (char) 31, 8, 1);
+        faulty("crime 5;" + (char) 0, 8, 1);
+        faulty("crime 5" + (char) 127 + ";", 7, 1);
     }
 
     public void promise05Misplaced() {
@@ -816,6 +824,8 @@ public final class PromiseTests {
         due(91, x.luck(3, 19, 0));
         due(1, x.luck(3, 20, 0));
         due(1, x.luck(3, 99, 1));
+        due(0, x.luck(0, 12, 0));
+        due(1, x.luck(0, 13, 0));
         due(0, x.luck(10, 19, 0));
         due(1, x.luck(10, 20, 0));
         int[][] wrong = {{-1, 5, 0}, {11, 5, 0}, {1, -1, 0}, {1, 100, 0}, {1, 5, -1}, {1, 5, 2}, {LOW, LOW, LOW},
