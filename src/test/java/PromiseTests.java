@@ -824,6 +824,7 @@ public final class PromiseTests {
         due(91, x.luck(3, 19, 0));
         due(1, x.luck(3, 20, 0));
         due(1, x.luck(3, 99, 1));
+        due(0, x.luck(3, 0, 0));
         due(0, x.luck(0, 12, 0));
         due(1, x.luck(0, 13, 0));
         due(0, x.luck(10, 19, 0));
