@@ -9,13 +9,20 @@ import java.util.Comparator;
 
 /** Runs each public method of the test classes as one test; writes how many passed and failed into a file. */
 public final class AllTests {
+    // far more than any test needs: a call that does not end fails its test instead of holding up the run
+    private static final long LONGEST = 60_000;
     private static int passed = 0;
     private static int failed = 0;
 
     private AllTests() {
     }
 
-    public static void main(String[] args) throws IOException {
+    public static void main(String[] args) throws IOException, InterruptedException {
+        runAll(new TextEdges());
+        runAll(new BenchEdges());
+        runAll(new DocketEdges());
+        runAll(new OddsAndScarsEdges());
+        runAll(new SheetEdges());
         runAll(new PromiseTests());
         runAll(new CrossTests());
         runAll(new LanguageTests());
@@ -26,7 +33,7 @@ public final class AllTests {
         System.exit(failed == 0 ? 0 : 1);
     }
 
-    private static void runAll(Object tests) {
+    private static void runAll(Object tests) throws InterruptedException {
         Method[] methods = tests.getClass().getDeclaredMethods();
         Arrays.sort(methods, Comparator.comparing(Method::getName));
         for (Method m : methods) {
@@ -36,22 +43,34 @@ public final class AllTests {
         }
     }
 
-    private static void runOne(Object tests, Method m) {
+    private static void runOne(Object tests, Method m) throws InterruptedException {
+        Throwable[] thrown = {new AssertionError("it does not end")};
+        Thread run = new Thread(() -> thrown[0] = whatIsThrown(tests, m));
+        run.setDaemon(true);
+        run.start();
+        run.join(LONGEST);
+        if (thrown[0] == null) {
+            passed++;
+            return;
+        }
+        failed++;
+        System.out.println(tests.getClass().getName() + "." + m.getName() + " fails: " + thrown[0]);
+        for (StackTraceElement place : thrown[0].getStackTrace()) {
+            if (place.getClassName().equals(tests.getClass().getName())) {
+                System.out.println("    line " + place.getLineNumber());
+                break;
+            }
+        }
+    }
+
+    private static Throwable whatIsThrown(Object tests, Method m) {
         try {
             m.invoke(tests);
-            passed++;
+            return null;
         } catch (InvocationTargetException e) {
-            failed++;
-            System.out.println(tests.getClass().getName() + "." + m.getName() + " fails: " + e.getCause());
-            for (StackTraceElement place : e.getCause().getStackTrace()) {
-                if (place.getClassName().equals(tests.getClass().getName())) {
-                    System.out.println("    line " + place.getLineNumber());
-                    break;
-                }
-            }
+            return e.getCause();
         } catch (IllegalAccessException e) {
-            failed++;
-            System.out.println(m.getName() + " can't be run: " + e);
+            return e;
         }
     }
 }

@@ -6,21 +6,16 @@ import java.util.regex.Matcher;
 import java.util.regex.Pattern;
 
 /** What the program reckons in one call, reckoned again by many plain calls on made-up benches. */
-public final class CrossTests {
-    private static final int BAD = -1, STATE = -2, NONE = -4;
+public final class CrossTests extends Tests {
     private static final int SCENES = 400;
 
-    private static void due(long want, long got) {
-        Due.due(want, got);
-    }
-
-    /** One day's hearings and the day, by give() and days(); who hears what is noted. */
-    private static int playDay(JudgeFirst x, int[] by) {
+    /** One day's hearings and the day, by give() and days(); who hears what is noted, -1 for what was heard ahead. */
+    private static int playDay(JudgeFirst x, int judges, int[] leasts, int[] by) {
         int idle = 0;
-        for (int j = 0; j < x.rule(0); j++) {
+        for (int j = 0; j < judges; j++) {
             boolean hears = false;
-            for (int c = 0; c < x.rule(1) && !hears; c++) {
-                if (x.suit(c, 4) == 0 && x.give(c, j, x.suit(c, 1)) >= 0) {
+            for (int c = 0; c < leasts.length && !hears; c++) {
+                if (by[c] == NONE && x.give(c, j, leasts[c]) >= 0) {
                     hears = true;
                     by[c] = j;
                 }
@@ -31,16 +26,12 @@ public final class CrossTests {
         return idle;
     }
 
-    private static int sum(JudgeFirst x, int what) {
+    private static int sum(JudgeFirst x, int judges, int what) {
         int sum = 0;
-        for (int j = 0; j < x.rule(0); j++) {
+        for (int j = 0; j < judges; j++) {
             sum += x.judge(j, what);
         }
         return sum;
-    }
-
-    private static boolean clear(JudgeFirst x) {
-        return x.rule(5) == 0 && Integer.bitCount(x.rule(4)) == x.rule(1);
     }
 
     public void promise17And18Docket() {
@@ -49,26 +40,32 @@ public final class CrossTests {
             Scene scene = new Scene(r, true);
             JudgeFirst asked = scene.build();
             JudgeFirst played = scene.build();
-            String before = Due.all(asked);
+            int judges = played.rule(0);
+            int suits = played.rule(1);
             int heard = played.rule(4);
+            int[] leasts = new int[suits];
+            int[] by = new int[suits];
+            for (int c = 0; c < suits; c++) {
+                leasts[c] = played.suit(c, 1);
+                by[c] = (heard >> c & 1) == 1 ? -1 : NONE;
+            }
             int idle = 0;
             int first = NONE;
-            int[] by = new int[5];
-            Arrays.fill(by, NONE);
-            for (int n = 0; n <= 12; n++) {
-                first = first == NONE && clear(played) ? n : first;
+            for (int n = 0; n <= 8; n++) {
+                boolean clear = played.rule(5) == 0 && Integer.bitCount(played.rule(4)) == suits;
+                first = first == NONE && clear ? n : first;
                 due(played.rule(4) & ~heard, asked.docket(n, 0));
                 due(played.rule(3), asked.docket(n, 1));
-                due(sum(played, 2), asked.docket(n, 2));
-                due(sum(played, 1), asked.docket(n, 3));
+                due(sum(played, judges, 2), asked.docket(n, 2));
+                due(sum(played, judges, 1), asked.docket(n, 3));
                 due(idle, asked.docket(n, 4));
                 due(first, asked.docket(n, 5));
-                for (int c = 0; c < asked.rule(1); c++) {
-                    due(by[c], asked.hears(c, n));
+                for (int c = 0; c < suits; c++) {
+                    due(by[c] == -1 ? NONE : by[c], asked.hears(c, n));
                 }
-                idle += playDay(played, by);
+                idle += playDay(played, judges, leasts, by);
             }
-            Due.due(before, Due.all(asked));
+            Trace.alike(scene.build(), asked);
         }
     }
 
@@ -79,35 +76,35 @@ public final class CrossTests {
     }
 
     /** All ways, then the best by the words of the promise, without any order of the search. */
-    private static void choose(JudgeFirst x, int[] picks, int j, Choice best) {
+    private static void choose(int crime, int[] leasts, int[] can, int[] picks, int j, Choice best) {
         if (j == picks.length) {
             int heard = 0;
-            int crime = x.rule(3);
+            int then = crime;
             for (int c : picks) {
                 if (c != 9) {
                     heard++;
-                    crime = Math.max(0, crime - x.suit(c, 1) / 5);
+                    then = Math.max(0, then - leasts[c] / 5);
                 }
             }
-            boolean better = heard > best.heard || heard == best.heard && (crime < best.crime
-                    || crime == best.crime && Arrays.compare(picks, best.picks) < 0);
+            boolean better = heard > best.heard || heard == best.heard && (then < best.crime
+                    || then == best.crime && Arrays.compare(picks, best.picks) < 0);
             if (better) {
                 best.heard = heard;
-                best.crime = crime;
+                best.crime = then;
                 best.picks = picks.clone();
             }
             return;
         }
         picks[j] = 9;
-        choose(x, picks, j + 1, best);
-        for (int c = 0; c < x.rule(1); c++) {
+        choose(crime, leasts, can, picks, j + 1, best);
+        for (int c = 0; c < leasts.length; c++) {
             boolean free = true;
             for (int i = 0; i < j; i++) {
                 free &= picks[i] != c;
             }
-            if (free && (x.can(c, x.suit(c, 1)) >> j & 1) == 1) {
+            if (free && (can[c] >> j & 1) == 1) {
                 picks[j] = c;
-                choose(x, picks, j + 1, best);
+                choose(crime, leasts, can, picks, j + 1, best);
             }
         }
     }
@@ -115,15 +112,23 @@ public final class CrossTests {
     public void promise19Best() {
         Numbers r = new Numbers(2);
         for (int i = 0; i < SCENES; i++) {
-            JudgeFirst x = new Scene(r, true).build();
+            Scene scene = new Scene(r, true);
+            JudgeFirst x = scene.build();
+            int[] leasts = new int[x.rule(1)];
+            int[] can = new int[leasts.length];
+            for (int c = 0; c < leasts.length; c++) {
+                leasts[c] = x.suit(c, 1);
+                can[c] = x.can(c, leasts[c]);
+            }
             Choice best = new Choice();
-            choose(x, new int[x.rule(0)], 0, best);
+            choose(x.rule(3), leasts, can, new int[x.rule(0)], 0, best);
             due(best.heard, x.best(0));
             due(best.crime, x.best(1));
             for (int j = 0; j < best.picks.length; j++) {
                 due(best.picks[j] == 9 ? NONE : best.picks[j], x.best(10 + j));
             }
             due(BAD, x.best(10 + best.picks.length));
+            Trace.alike(scene.build(), x);
         }
     }
 
@@ -253,43 +258,45 @@ public final class CrossTests {
         }
     }
 
-    private static int tenth(int kind, int n) {
-        int plain = n / 10 + (n % 10 == 0 ? 0 : 1);
-        int old = plain / 2 + plain % 2;
-        return new int[] {plain, plain == 1 ? 1 : plain - 1, old, old + old}[kind];
-    }
-
     public void promise28To30Scars() {
         Numbers r = new Numbers(8);
         for (int i = 0; i < SCENES; i++) {
             JudgeFirst x = new Scene(r, false).build();
-            if (x.rule(0) == 0 || x.rule(1) == 0) {
+            int judges = x.rule(0);
+            int[][] bounds = new int[x.rule(1)][];
+            for (int c = 0; c < bounds.length; c++) {
+                bounds[c] = new int[] {x.suit(c, 1), x.suit(c, 2)};
+            }
+            if (judges == 0 || bounds.length == 0) {
                 continue;
             }
             List<int[]> seen = new ArrayList<>();
             for (int k = r.next(0, 6); k > 0; k--) {
-                int j = r.next(0, Math.min(1, x.rule(0) - 1));
-                int c = r.next(0, Math.min(1, x.rule(1) - 1));
-                int t = tenth(r.next(0, 9) == 0 ? r.next(0, 3) : x.judge(j, 0), r.next(x.suit(c, 1), x.suit(c, 2)));
+                int j = r.next(0, Math.min(1, judges - 1));
+                int c = r.next(0, Math.min(1, bounds.length - 1));
+                int kind = r.next(0, 9) == 0 ? r.next(0, 3) : x.judge(j, 0);
+                int t = tenth(kind, r.next(bounds[c][0], bounds[c][1]));
                 seen.add(new int[] {j, c, t});
                 x.see(j, c, t);
             }
-            for (int j = 0; j < x.rule(0); j++) {
-                due(kinds(x, seen, j), x.kinds(j));
-                asks(x, kinds(x, seen, j), j);
+            int[] kinds = new int[judges];
+            for (int j = 0; j < judges; j++) {
+                kinds[j] = kinds(bounds, seen, j);
+                due(kinds[j], x.kinds(j));
+                asks(x, kinds[j], j);
             }
-            for (int c = 0; c < x.rule(1); c++) {
-                terms(x, seen, c);
+            for (int c = 0; c < bounds.length; c++) {
+                terms(x, bounds[c], kinds, seen, c);
             }
         }
     }
 
-    private static int kinds(JudgeFirst x, List<int[]> seen, int j) {
+    private static int kinds(int[][] bounds, List<int[]> seen, int j) {
         int kinds = 15;
         for (int[] s : seen) {
             for (int kind = 0; kind < 4 && s[0] == j; kind++) {
                 boolean some = false;
-                for (int n = x.suit(s[1], 1); n <= x.suit(s[1], 2); n++) {
+                for (int n = bounds[s[1]][0]; n <= bounds[s[1]][1]; n++) {
                     some |= tenth(kind, n) == s[2];
                 }
                 kinds &= some ? 15 : ~(1 << kind);
@@ -298,12 +305,12 @@ public final class CrossTests {
         return kinds;
     }
 
-    private static void terms(JudgeFirst x, List<int[]> seen, int c) {
+    private static void terms(JudgeFirst x, int[] bounds, int[] kinds, List<int[]> seen, int c) {
         List<Integer> left = new ArrayList<>();
-        for (int n = x.suit(c, 1); n <= x.suit(c, 2); n++) {
+        for (int n = bounds[0]; n <= bounds[1]; n++) {
             boolean all = true;
-            for (int j = 0; j < x.rule(0); j++) {
-                int could = kinds(x, seen, j);
+            for (int j = 0; j < kinds.length; j++) {
+                int could = kinds[j];
                 boolean any = false;
                 for (int[] s : seen) {
                     any |= s[0] == j && s[1] == c;
@@ -346,24 +353,27 @@ public final class CrossTests {
             Scene scene = new Scene(r, true);
             JudgeFirst x = scene.build();
             JudgeFirst played = scene.build();
-            if (x.rule(0) == 0 || x.rule(1) == 0) {
+            int judges = played.rule(0);
+            int[] leasts = new int[played.rule(1)];
+            for (int c = 0; c < leasts.length; c++) {
+                leasts[c] = played.suit(c, 1);
+            }
+            if (judges == 0 || leasts.length == 0) {
                 due(STATE, x.drift(5, 5, 0));
                 continue;
             }
-            String before = Due.all(x);
             int seed = r.wild(-1000000, 1000000);
             BigInteger state = BigInteger.valueOf(seed);
             for (int n = 1; n <= 60; n++) {
                 state = state.multiply(BigInteger.valueOf(1103515245)).add(BigInteger.valueOf(12345))
                     .mod(BigInteger.ONE.shiftLeft(32));
                 int got = state.shiftRight(16).intValue() & 32767;
-                int c = got % x.rule(1);
-                played.give(c, got / 8 % x.rule(0), played.suit(c, 1));
+                int c = got % leasts.length;
+                played.give(c, got / 8 % judges, leasts[c]);
                 played.days(1);
                 due(played.rule(3), x.drift(seed, n, 0));
                 due(played.rule(4), x.drift(seed, n, 1));
             }
-            Due.due(before, Due.all(x));
         }
     }
 
@@ -371,15 +381,13 @@ public final class CrossTests {
         Numbers r = new Numbers(10);
         for (int i = 0; i < SCENES; i++) {
             Scene scene = new Scene(r, false);
-            JudgeFirst x = scene.build();
-            JudgeFirst given = scene.build();
             int size = r.next(3, 15);
-            x.sheet(2, 1, size);
             int[] cells = new int[size];
             for (int k = 0; k < size; k++) {
                 cells[k] = k % 3 == 2 ? r.next(20, 60) : k / 3;
-                x.lay(2, k, cells[k]);
             }
+            JudgeFirst x = laid(scene, cells);
+            JudgeFirst given = laid(scene, cells);
             int n = r.next(1, 5);
             int came = 0;
             int want = NONE;
@@ -391,11 +399,19 @@ public final class CrossTests {
                     came++;
                 }
             }
-            String before = Due.state(x);
             due(want == NONE ? came : want, x.read(2, 1, 0, n));
             due(want == NONE && came < n ? 2 : 0, x.torn());
-            Due.due(want == NONE ? Due.state(given) : before, Due.state(x));
+            Trace.alike(want == NONE ? given : laid(scene, cells), x, "torn");
         }
+    }
+
+    private static JudgeFirst laid(Scene scene, int[] cells) {
+        JudgeFirst x = scene.build();
+        x.sheet(2, 1, cells.length);
+        for (int k = 0; k < cells.length; k++) {
+            x.lay(2, k, cells[k]);
+        }
+        return x;
     }
 
     private static final Pattern TOKEN = Pattern.compile("[a-z]+|[0-9]+|;");
@@ -541,21 +557,45 @@ public final class CrossTests {
         }
     }
 
-    public void promisesNoCallThrowsAndWhatIsRefusedChangesNothing() {
+    /** Runs of any calls, as long as an object is good for. */
+    public void promisesAllNoCallThrows() {
         Numbers r = new Numbers(12);
-        for (int i = 0; i < 300; i++) {
+        for (int i = 0; i < 2000; i++) {
             JudgeFirst x = i % 10 == 0 ? new JudgeFirst() : new Scene(r, true).build();
-            for (int k = 0; k < 400; k++) {
-                Numbers same = new Numbers(r.next(0, Integer.MAX_VALUE - 1));
-                String before = Due.all(x);
-                int fault = x.fault();
-                long answer = anyCall(x, same);
-                if (answer < 0 && x.fault() == fault && x.count(2) != 0) {
-                    Due.due(before, Due.all(x));
-                }
-                inBounds(x);
+            for (int k = 0; k < 300; k++) {
+                anyCall(x, r);
+            }
+            inBounds(x);
+        }
+    }
+
+    /** Behind a call that is refused all is as it is behind the same calls without it. */
+    public void promisesAllWhatIsRefusedChangesNothing() {
+        Numbers r = new Numbers(13);
+        int refused = 0;
+        for (int i = 0; i < 20000; i++) {
+            Scene scene = new Scene(r, true);
+            long seed = r.next(0, Integer.MAX_VALUE - 1);
+            int calls = r.next(0, 20);
+            Numbers numbers = new Numbers(seed);
+            JudgeFirst x = afterCalls(scene, numbers, calls);
+            int bytes = x.count(2);
+            boolean tells = x.fault() != 0;
+            long answer = anyCall(x, numbers);
+            if (answer < 0 && x.count(2) == bytes && (x.fault() != 0) == tells) {
+                refused++;
+                Trace.alike(afterCalls(scene, new Numbers(seed), calls), x);
             }
         }
+        due(1, refused > 4000 ? 1 : 0);
+    }
+
+    private static JudgeFirst afterCalls(Scene scene, Numbers numbers, int calls) {
+        JudgeFirst x = scene.build();
+        for (int k = 0; k < calls; k++) {
+            anyCall(x, numbers);
+        }
+        return x;
     }
 
     private static void inBounds(JudgeFirst x) {

@@ -10,7 +10,7 @@ import java.util.regex.Matcher;
 import java.util.regex.Pattern;
 
 /** The rules of ../shared/LANGUAGE.md, as far as a test can see them. */
-public final class LanguageTests {
+public final class LanguageTests extends Tests {
     private static final String FACE = "BAD STATE FULL NONE feed end text fault rule judge suit tenth alter amend crime"
         + " can give appeal days docket hears best deter order spare hopeless mean luck see forget kinds terms ask drift"
         + " keep back sheet lay read torn count";
@@ -25,10 +25,10 @@ public final class LanguageTests {
         Set<String> seen = new TreeSet<>();
         addVisible(seen, JudgeFirst.class.getDeclaredMethods());
         addVisible(seen, JudgeFirst.class.getDeclaredFields());
-        Due.due(face.toString(), seen.toString());
-        Due.due(1, JudgeFirst.class.getConstructors().length);
-        Due.due(1, JudgeFirst.class.getDeclaredConstructors().length);
-        Due.due(Modifier.PUBLIC | Modifier.FINAL, JudgeFirst.class.getModifiers());
+        due(1, face.equals(seen) ? 1 : 0);
+        due(1, JudgeFirst.class.getConstructors().length);
+        due(1, JudgeFirst.class.getDeclaredConstructors().length);
+        due(Modifier.PUBLIC | Modifier.FINAL, JudgeFirst.class.getModifiers());
     }
 
     private static void addVisible(Set<String> seen, Member[] members) {
@@ -59,22 +59,22 @@ public final class LanguageTests {
     public void rule05StaticFieldsAreConstants() {
         for (Class<?> inside : JudgeFirst.class.getDeclaredClasses()) {
             constants(inside);
-            Due.due(1, Modifier.isStatic(inside.getModifiers()) ? 1 : 0);
+            due(1, Modifier.isStatic(inside.getModifiers()) ? 1 : 0);
         }
         constants(JudgeFirst.class);
     }
 
     private static void constants(Class<?> whose) {
         Arrays.stream(whose.getDeclaredFields()).filter(f -> Modifier.isStatic(f.getModifiers())).forEach(f -> {
-            Due.due(1, Modifier.isFinal(f.getModifiers()) && f.getType() == int.class ? 1 : 0);
+            due(1, Modifier.isFinal(f.getModifiers()) && f.getType() == int.class ? 1 : 0);
         });
     }
 
     public void rule11Sizes() throws IOException {
-        Due.due(1, JudgeFirst.class.getDeclaredClasses().length + 1 <= 12 ? 1 : 0);
+        due(1, JudgeFirst.class.getDeclaredClasses().length + 1 <= 12 ? 1 : 0);
         for (Class<?> inside : JudgeFirst.class.getDeclaredClasses()) {
             long many = Arrays.stream(inside.getDeclaredFields()).filter(f -> !Modifier.isStatic(f.getModifiers())).count();
-            Due.due(1, many <= 20 ? 1 : 0);
+            due(1, many <= 20 ? 1 : 0);
         }
     }
 

@@ -1,271 +1,12 @@
-/** A test or more for each promise, with answers reckoned by hand. */
-public final class PromiseTests {
-    private static final int BAD = -1, STATE = -2, FULL = -3, NONE = -4;
-    private static final int LOW = Integer.MIN_VALUE, HIGH = Integer.MAX_VALUE;
+/** Runs of calls for the promises from 6 on, with answers reckoned by hand; bounds and refusals are in the edge tests. */
+public final class PromiseTests extends Tests {
     private static final String FOUR = "plain 9 4; young 3 20; old 20 0; hermit 5 9;";
-
-    private static void due(long want, long got) {
-        Due.due(want, got);
-    }
-
-    private static JudgeFirst told(String text) {
-        return Due.told(text);
-    }
 
     public void constants() {
         due(-1, JudgeFirst.BAD);
         due(-2, JudgeFirst.STATE);
         due(-3, JudgeFirst.FULL);
         due(-4, JudgeFirst.NONE);
-    }
-
-    public void promise01NewObject() {
-        JudgeFirst x = new JudgeFirst();
-        int[] rule = {0, 0, 0, 20, 0, 0, 0};
-        for (int what = 0; what < rule.length; what++) {
-            due(rule[what], x.rule(what));
-        }
-        int[] count = {0, 0, 0, NONE, 0, 0};
-        for (int what = 0; what < count.length; what++) {
-            due(count[what], x.count(what));
-        }
-        due(BAD, x.judge(0, 0));
-        due(BAD, x.suit(0, 0));
-        due(0, x.fault());
-        due(0, x.torn());
-        due(STATE, x.back(0));
-        due(STATE, x.back(1));
-        for (int k = 0; k < 4; k++) {
-            due(-11, x.lay(k, 0, 1));
-        }
-    }
-
-    public void promise02Feed() {
-        JudgeFirst x = new JudgeFirst();
-        due(1, x.feed(0));
-        due(2, x.feed(127));
-        for (int c : new int[] {-1, 128, LOW, HIGH}) {
-            Due.refused(x, BAD, () -> x.feed(c));
-        }
-        for (int i = 3; i <= 160; i++) {
-            due(i, x.feed(' '));
-        }
-        Due.refused(x, FULL, () -> x.feed(' '));
-        Due.refused(x, BAD, () -> x.feed(128));
-        due(160, x.count(2));
-    }
-
-    public void promise02FullTapeIsRead() {
-        JudgeFirst x = new JudgeFirst();
-        Due.feed(x, "crime 7");
-        for (int i = 7; i < 159; i++) {
-            x.feed(' ');
-        }
-        due(160, x.feed(';'));
-        due(1, x.text());
-        due(7, x.rule(3));
-    }
-
-    public void promise03End() {
-        JudgeFirst x = new JudgeFirst();
-        due(0, x.end(0));
-        Due.refused(x, BAD, () -> x.end(1));
-        Due.feed(x, "crime 5;crime 6;");
-        for (int n : new int[] {-1, 17, LOW, HIGH}) {
-            Due.refused(x, BAD, () -> x.end(n));
-        }
-        due(16, x.end(16));
-        due(16, x.end(8));
-        due(8, x.count(2));
-        due(9, x.feed(' '));
-        due(9, x.end(8));
-        due(1, x.text());
-        due(5, x.rule(3));
-    }
-
-    public void promise03EndMakesRoom() {
-        JudgeFirst x = new JudgeFirst();
-        for (int i = 0; i < 160; i++) {
-            x.feed(';');
-        }
-        due(FULL, x.feed(' '));
-        due(160, x.end(159));
-        due(160, x.feed(' '));
-        due(160, x.end(0));
-        due(0, x.text());
-    }
-
-    public void promise04TextTellsAll() {
-        JudgeFirst x = told(FOUR + "gaol 1 60 20;fine 7 7 0;lash 2 3 4;stocks 60 60 1;crime 0;gaol 9 10 3;");
-        due(4, x.rule(0));
-        due(5, x.rule(1));
-        due(0, x.rule(3));
-        int[][] judges = {{0, 9, 4}, {1, 3, 20}, {2, 20, 0}, {3, 5, 9}};
-        for (int j = 0; j < 4; j++) {
-            for (int what = 0; what < 3; what++) {
-                due(judges[j][what], x.judge(j, what));
-            }
-        }
-        int[][] suits = {{0, 1, 60, 20}, {1, 7, 7, 0}, {2, 2, 3, 4}, {3, 60, 60, 1}, {0, 9, 10, 3}};
-        for (int c = 0; c < 5; c++) {
-            for (int what = 0; what < 4; what++) {
-                due(suits[c][what], x.suit(c, what));
-            }
-            due(0, x.suit(c, 4));
-            due(NONE, x.suit(c, 5));
-        }
-        due(0, x.count(2));
-    }
-
-    public void promise04TextInPlaceOfWhatThereWas() {
-        JudgeFirst x = told("plain 9 4; gaol 5 9 0; crime 50;");
-        x.give(0, 0, 9);
-        x.days(3);
-        x.see(0, 0, 1);
-        x.keep(0);
-        x.keep(1);
-        x.sheet(0, 2, 5);
-        due(0, x.read(1, 0, 0, 1));
-        due(1, x.torn());
-        Due.feed(x, "lash 3 4 0; old 1 99;");
-        due(2, x.text());
-        due(1, x.rule(0));
-        due(1, x.rule(1));
-        due(0, x.rule(2));
-        due(20, x.rule(3));
-        due(0, x.rule(4));
-        due(0, x.rule(5));
-        due(2, x.judge(0, 0));
-        due(0, x.judge(0, 3));
-        due(0, x.judge(0, 4));
-        due(0, x.suit(0, 4));
-        due(NONE, x.suit(0, 5));
-        due(0, x.count(0));
-        due(0, x.count(1));
-        due(STATE, x.back(0));
-        due(5, x.count(3));
-        due(1, x.torn());
-    }
-
-    public void promise04ScarsAndAwayAreAsAtFirst() {
-        JudgeFirst x = told("plain 9 4; stocks 5 9 0;");
-        x.give(0, 0, 9);
-        x.docket(3, 0);
-        Due.feed(x, "plain 9 4; stocks 5 9 0;");
-        due(2, x.text());
-        due(0, x.judge(0, 3));
-        due(0, x.judge(0, 4));
-        due(0, x.suit(0, 4));
-        due(NONE, x.suit(0, 5));
-        due(0, x.judge(0, 5));
-    }
-
-    public void promise04EmptyText() {
-        JudgeFirst x = told("plain 9 4; crime 7;");
-        due(0, x.text());
-        due(0, x.rule(0));
-        due(20, x.rule(3));
-        Due.feed(x, "     ");
-        due(0, x.text());
-        due(0, x.fault());
-    }
-
-    public void promise04Blanks() {
-        due(3, reads("plain1 2;crime3;  fine   4  5    6  ;"));
-        due(1, reads("   young 01 00;   "));
-        due(1, reads("gaol01 01 00;"));
-    }
-
-    public void promise04FaultKeepsWhatWasTold() {
-        JudgeFirst x = told("plain 9 4; gaol 5 9 0;");
-        x.keep(0);
-        x.see(0, 0, 1);
-        String before = Due.state(x);
-        Due.feed(x, "old 3 3; crime 9; lash 1 2 21;");
-        due(-10 - 27, x.text());
-        due(3, x.fault());
-        due(0, x.count(2));
-        due(1, x.count(1));
-        Due.due(before, Due.state(x));
-        due(0, x.text());
-    }
-
-    public void promise05NoToken() {
-        faulty("Plain 1 1;", 0, 1);
-        faulty("plain. 1 1;", 5, 1);
-        faulty("plain 1.1;", 7, 1);
-        faulty("plain 1 123;", 8, 1);
-        faulty("plain 001 1;", 6, 1);
-        faulty("123;", 0, 1);
-        faulty("plain 1 1;?", 10, 1);
-        faulty("plain 1 1 345;", 10, 1);
-        faulty("crime 5;\t", 8, 1);
-        faulty("crime -5;", 6, 1);
-        faulty("crime{5;", 5, 1);
-        faulty("`", 0, 1);
-        faulty("crime 5:", 7, 1);
-        faulty("crime /5;", 6, 1);
-        faulty("crime!5;", 5, 1);
-        faulty("crime 5;" + (char) 31, 8, 1);
-        faulty("crime 5;" + (char) 0, 8, 1);
-        faulty("crime 5" + (char) 127 + ";", 7, 1);
-    }
-
-    public void promise05Misplaced() {
-        faulty(";", 0, 2);
-        faulty("  7;", 2, 2);
-        faulty("plains 1 1;", 0, 2);
-        faulty("plai 1 1;", 0, 2);
-        faulty("plain", 5, 2);
-        faulty("plain  ", 7, 2);
-        faulty("plain 1", 7, 2);
-        faulty("plain 1 1", 9, 2);
-        faulty("plain 1 1  ", 11, 2);
-        faulty("plain 1;", 7, 2);
-        faulty("plain 1 1 1;", 10, 2);
-        faulty("plain 1 x;", 8, 2);
-        faulty("plain young 1 1;", 6, 2);
-        faulty("plain 1 1 young 1 1;", 10, 2);
-        faulty("crime;", 5, 2);
-        faulty("crime 5;;", 8, 2);
-        faulty("crime 5; 5", 9, 2);
-        faulty("gaol 1 2;", 8, 2);
-        faulty("gaol 1 2 3 4;", 11, 2);
-        faulty("crimecrime 5;", 0, 2);
-        faulty("a", 0, 2);
-    }
-
-    public void promise05OutOfBounds() {
-        faulty("plain 0 1;", 6, 3);
-        faulty("old 21 1;", 4, 3);
-        faulty("hermit 00 x", 7, 3);
-        faulty("fine 0 5 1;", 5, 3);
-        faulty("fine 61 61 1;", 5, 3);
-        faulty("lash 5 4 1;", 7, 3);
-        faulty("lash 5 61 1;", 7, 3);
-        faulty("stocks 5 5 21;", 11, 3);
-        faulty("stocks 5 4", 9, 3);
-        due(4, reads("plain 1 0;old 20 99;gaol 1 1 20;fine 60 60 0;"));
-        due(1, reads("crime 99;"));
-    }
-
-    public void promise05TwiceAndTooMany() {
-        faulty("crime 1; crime 100;", 9, 4);
-        faulty("crime 1;crime", 8, 4);
-        faulty("old 1 1;old 1 1;old 1 1;old 1 1;old 1 1;", 32, 5);
-        faulty("old 1 1;old 1 1;old 1 1;old 1 1;young", 32, 5);
-        faulty("gaol 1 1 1;gaol 1 1 1;fine 1 1 1;lash 1 1 1;stocks 1 1 1;gaol 0 0 0;", 57, 5);
-    }
-
-    public void promise05LatestTextTells() {
-        JudgeFirst x = new JudgeFirst();
-        x.feed(';');
-        due(-10, x.text());
-        due(2, x.fault());
-        Due.feed(x, "crime 5;");
-        due(2, x.fault());
-        due(1, x.text());
-        due(0, x.fault());
     }
 
     public void promise06Rule() {
@@ -281,9 +22,6 @@ public final class PromiseTests {
         due(39, x.days(3));
         due(0, x.rule(5));
         due(4, x.rule(2));
-        for (int what : new int[] {-1, 7, LOW, HIGH}) {
-            Due.refused(x, BAD, () -> x.rule(what));
-        }
     }
 
     public void promise07Judge() {
@@ -299,12 +37,6 @@ public final class PromiseTests {
         }
         due(1, x.judge(3, 5));
         due(0, x.judge(1, 5));
-        for (int j : new int[] {-1, 4, LOW, HIGH}) {
-            Due.refused(x, BAD, () -> x.judge(j, 0));
-        }
-        for (int what : new int[] {-1, 6, LOW, HIGH}) {
-            Due.refused(x, BAD, () -> x.judge(0, what));
-        }
     }
 
     public void promise08Suit() {
@@ -315,12 +47,6 @@ public final class PromiseTests {
             due(second[what], x.suit(1, what));
         }
         due(NONE, x.suit(0, 5));
-        for (int c : new int[] {-1, 2, LOW, HIGH}) {
-            Due.refused(x, BAD, () -> x.suit(c, 0));
-        }
-        for (int what : new int[] {-1, 6, LOW, HIGH}) {
-            Due.refused(x, BAD, () -> x.suit(0, what));
-        }
     }
 
     public void promise09Tenth() {
@@ -336,12 +62,6 @@ public final class PromiseTests {
                 due(tenths[j][i], x.tenth(j, sentences[i]));
             }
         }
-        for (int n : new int[] {0, 61, -1, LOW, HIGH}) {
-            due(BAD, x.tenth(0, n));
-        }
-        due(BAD, x.tenth(-1, 5));
-        due(BAD, x.tenth(4, 5));
-        due(BAD, told("old 1 1;").tenth(1, 5));
     }
 
     public void promise10Alter() {
@@ -354,11 +74,6 @@ public final class PromiseTests {
         due(99, x.alter(0, 2, 0));
         due(0, x.judge(0, 2));
         due(1, x.judge(0, 1));
-        int[][] wrong = {{-1, 0, 1}, {4, 0, 1}, {0, -1, 1}, {0, 3, 1}, {0, 0, 4}, {0, 0, -1}, {0, 1, 0},
-            {0, 1, 21}, {0, 2, -1}, {0, 2, 100}, {LOW, LOW, LOW}, {HIGH, HIGH, HIGH}};
-        for (int[] w : wrong) {
-            Due.refused(x, BAD, () -> x.alter(w[0], w[1], w[2]));
-        }
     }
 
     public void promise11Amend() {
@@ -375,20 +90,7 @@ public final class PromiseTests {
         due(1, x.suit(0, 1));
         due(1, x.suit(0, 2));
         due(0, x.suit(0, 3));
-        int[][] wrong = {{-1, 0, 1}, {2, 0, 1}, {1, -1, 1}, {1, 4, 1}, {1, 0, 4}, {1, 0, -1}, {1, 1, 0},
-            {1, 1, 10}, {1, 2, 4}, {1, 2, 61}, {1, 3, -1}, {1, 3, 21}, {LOW, LOW, LOW}, {HIGH, HIGH, HIGH}};
-        for (int[] w : wrong) {
-            Due.refused(x, BAD, () -> x.amend(w[0], w[1], w[2]));
-        }
         x.give(1, 0, 5);
-        for (int[] w : wrong) {
-            Due.refused(x, BAD, () -> x.amend(w[0], w[1], w[2]));
-        }
-        for (int what = 0; what <= 3; what++) {
-            int v = what == 2 ? 9 : 3;
-            int asked = what;
-            Due.refused(x, STATE, () -> x.amend(1, asked, v));
-        }
         x.appeal(1);
         due(0, x.amend(1, 3, 3));
     }
@@ -398,9 +100,6 @@ public final class PromiseTests {
         due(20, x.crime(0));
         due(0, x.crime(99));
         due(99, x.crime(7));
-        for (int v : new int[] {-1, 100, LOW, HIGH}) {
-            Due.refused(x, BAD, () -> x.crime(v));
-        }
         due(7, x.rule(3));
     }
 
@@ -420,10 +119,6 @@ public final class PromiseTests {
         due(5, x.can(0, 25));
         x.days(1);
         due(7, x.can(0, 25));
-        int[][] wrong = {{-1, 25}, {3, 25}, {0, 20}, {0, 61}, {2, 4}, {2, 10}, {LOW, LOW}, {HIGH, HIGH}};
-        for (int[] w : wrong) {
-            Due.refused(x, BAD, () -> x.can(w[0], w[1]));
-        }
     }
 
     public void promise14GivesOfEachSort() {
@@ -445,37 +140,23 @@ public final class PromiseTests {
 
     public void promise14CanNotBe() {
         JudgeFirst x = told("plain 3 2; old 20 9; fine 20 40 0; lash 20 40 0; gaol 11 30 0; stocks 1 2 1;");
-        Due.refused(x, STATE, () -> x.give(0, 0, 21));
-        Due.refused(x, STATE, () -> x.give(1, 0, 21));
-        Due.refused(x, STATE, () -> x.give(3, 0, 1));
         due(16, x.give(0, 0, 20));
         due(0, x.judge(0, 2));
-        Due.refused(x, STATE, () -> x.give(0, 0, 20));
         due(12, x.give(1, 0, 20));
         due(1, x.judge(0, 1));
         due(10, x.give(2, 0, 11));
         x.days(1);
-        Due.refused(x, STATE, () -> x.give(3, 0, 1));
+        due(STATE, x.give(3, 0, 1));
         x.days(1);
         due(12, x.give(3, 0, 1));
         due(3, x.judge(0, 3));
         due(3, x.judge(0, 4));
     }
 
-    public void promise14Bad() {
-        JudgeFirst x = told("plain 3 2; gaol 5 40 5;");
-        int[][] wrong = {{-1, 0, 5}, {1, 0, 5}, {0, -1, 5}, {0, 1, 5}, {0, 0, 4}, {0, 0, 41}, {LOW, LOW, LOW},
-            {HIGH, HIGH, HIGH}};
-        for (int[] w : wrong) {
-            Due.refused(x, BAD, () -> x.give(w[0], w[1], w[2]));
-        }
-        Due.refused(x, STATE, () -> x.give(0, 0, 5));
-    }
-
     public void promise15AppealUndoesBoth() {
-        JudgeFirst x = told("plain 9 4; young 9 4; old 9 4; hermit 9 4; gaol 25 60 0;fine 25 60 0;lash 25 60 0;stocks 25 60 0;");
-        x.crime(60);
-        String before = Due.state(x);
+        Bench bench = Bench.told("plain 9 4; young 9 4; old 9 4; hermit 9 4; gaol 25 60 0;fine 25 60 0;lash 25 60 0;"
+            + "stocks 25 60 0;crime 60;");
+        JudgeFirst x = bench.set();
         x.give(0, 0, 29);
         x.give(1, 1, 31);
         x.give(2, 2, 39);
@@ -485,9 +166,7 @@ public final class PromiseTests {
         due(41, x.appeal(1));
         due(48, x.appeal(2));
         due(60, x.appeal(3));
-        Due.due(before, Due.state(x));
-        due(0, x.suit(0, 4));
-        due(NONE, x.suit(0, 5));
+        Trace.alike(bench.set(), x);
     }
 
     public void promise15AsItWasAtTheSentencing() {
@@ -531,17 +210,6 @@ public final class PromiseTests {
         due(0, x.judge(0, 4));
     }
 
-    public void promise15Refused() {
-        JudgeFirst x = told("plain 9 4; gaol 60 60 0;");
-        for (int c : new int[] {-1, 1, LOW, HIGH}) {
-            Due.refused(x, BAD, () -> x.appeal(c));
-        }
-        Due.refused(x, STATE, () -> x.appeal(0));
-        x.give(0, 0, 60);
-        x.appeal(0);
-        Due.refused(x, STATE, () -> x.appeal(0));
-    }
-
     public void promise16Days() {
         JudgeFirst x = told("plain 9 4; gaol 9 9 0; fine 9 9 2; stocks 9 9 1;");
         due(20, x.days(0));
@@ -552,9 +220,6 @@ public final class PromiseTests {
         due(86, x.days(30));
         due(99, x.days(30));
         due(63, x.rule(2));
-        for (int n : new int[] {-1, 31, LOW, HIGH}) {
-            Due.refused(x, BAD, () -> x.days(n));
-        }
     }
 
     public void promise16TheLastDay() {
@@ -562,18 +227,13 @@ public final class PromiseTests {
         for (int i = 0; i < 33; i++) {
             due(20, x.days(30));
         }
-        Due.refused(x, FULL, () -> x.days(10));
-        Due.refused(x, FULL, () -> x.days(30));
-        Due.refused(x, BAD, () -> x.days(31));
         due(20, x.days(9));
         due(999, x.rule(2));
         due(20, x.days(0));
-        Due.refused(x, FULL, () -> x.days(1));
     }
 
     public void promise17Docket() {
         JudgeFirst x = told("old 3 2; young 9 1; fine 30 60 0; lash 50 60 0; gaol 40 40 1; stocks 10 20 9; crime 40;");
-        String before = Due.all(x);
         due(0, x.docket(0, 0));
         due(40, x.docket(0, 1));
         due(3, x.docket(0, 2));
@@ -599,11 +259,6 @@ public final class PromiseTests {
         due(NONE, x.docket(9, 5));
         due(10, x.docket(30, 5));
         due(56, x.docket(30, 4));
-        Due.due(before, Due.all(x));
-        int[][] wrong = {{-1, 0}, {31, 0}, {1, -1}, {1, 6}, {LOW, LOW}, {HIGH, HIGH}};
-        for (int[] w : wrong) {
-            Due.refused(x, BAD, () -> x.docket(w[0], w[1]));
-        }
     }
 
     public void promise17DocketOfWhatIsHeard() {
@@ -647,10 +302,6 @@ public final class PromiseTests {
         due(0, x.hears(3, 10));
         x.give(1, 1, 50);
         due(NONE, x.hears(1, 30));
-        int[][] wrong = {{-1, 0}, {4, 0}, {1, -1}, {1, 31}, {LOW, LOW}, {HIGH, HIGH}};
-        for (int[] w : wrong) {
-            Due.refused(x, BAD, () -> x.hears(w[0], w[1]));
-        }
     }
 
     public void promise19Best() {
@@ -660,9 +311,6 @@ public final class PromiseTests {
         due(14, x.best(1));
         due(2, x.best(10));
         due(0, x.best(11));
-        for (int what : new int[] {-1, 2, 9, 12, 13, 14, LOW, HIGH}) {
-            Due.refused(x, BAD, () -> x.best(what));
-        }
         x.give(2, 0, 20);
         due(1, x.best(10));
         due(0, x.best(11));
@@ -701,14 +349,6 @@ public final class PromiseTests {
         due(NONE, x.deter(0, 0));
         x.crime(3);
         due(15, x.deter(0, 0));
-        int[][] wrong = {{-1, 0}, {1, 0}, {0, -1}, {0, 100}, {LOW, LOW}, {HIGH, HIGH}};
-        for (int[] w : wrong) {
-            Due.refused(x, BAD, () -> x.deter(w[0], w[1]));
-        }
-        x.days(20);
-        x.give(0, 0, 12);
-        Due.refused(x, STATE, () -> x.deter(0, 50));
-        Due.refused(x, BAD, () -> x.deter(0, 100));
     }
 
     public void promise21Order() {
@@ -727,10 +367,6 @@ public final class PromiseTests {
         due(0, x.order(2, 10));
         due(0, x.order(0, 0));
         due(1, x.order(0, 11));
-        int[][] wrong = {{-1, 0}, {31, 0}, {1, -1}, {1, 1}, {1, 9}, {1, 14}, {LOW, LOW}, {HIGH, HIGH}};
-        for (int[] w : wrong) {
-            Due.refused(x, BAD, () -> x.order(w[0], w[1]));
-        }
         x.give(0, 2, 10);
         due(1, x.order(3, 0));
         JudgeFirst nobody = new JudgeFirst();
@@ -747,9 +383,6 @@ public final class PromiseTests {
         x.amend(1, 0, 0);
         due(NONE, x.spare(1));
         due(1, x.spare(2));
-        for (int n : new int[] {-1, 31, LOW, HIGH}) {
-            Due.refused(x, BAD, () -> x.spare(n));
-        }
         due(NONE, new JudgeFirst().spare(5));
         x.give(0, 0, 10);
         x.give(1, 1, 10);
@@ -804,10 +437,6 @@ public final class PromiseTests {
         x.crime(0);
         due(0, x.mean(0, 0));
         due(1, x.mean(0, 1));
-        int[][] wrong = {{-1, 0}, {11, 0}, {1, -1}, {1, 2}, {LOW, LOW}, {HIGH, HIGH}};
-        for (int[] w : wrong) {
-            Due.refused(x, BAD, () -> x.mean(w[0], w[1]));
-        }
     }
 
     public void promise25Luck() {
@@ -829,11 +458,6 @@ public final class PromiseTests {
         due(1, x.luck(0, 13, 0));
         due(0, x.luck(10, 19, 0));
         due(1, x.luck(10, 20, 0));
-        int[][] wrong = {{-1, 5, 0}, {11, 5, 0}, {1, -1, 0}, {1, 100, 0}, {1, 5, -1}, {1, 5, 2}, {LOW, LOW, LOW},
-            {HIGH, HIGH, HIGH}};
-        for (int[] w : wrong) {
-            Due.refused(x, BAD, () -> x.luck(w[0], w[1], w[2]));
-        }
         JudgeFirst nobody = new JudgeFirst();
         due(1, nobody.luck(4, 20, 0));
         due(0, nobody.luck(4, 19, 0));
@@ -842,16 +466,9 @@ public final class PromiseTests {
 
     public void promise26See() {
         JudgeFirst x = told("plain 9 4; gaol 29 29 0; fine 14 14 0;");
-        int[][] wrong = {{-1, 0, 1}, {1, 0, 1}, {0, -1, 1}, {0, 2, 1}, {0, 0, -1}, {0, 0, 61}, {LOW, LOW, LOW},
-            {HIGH, HIGH, HIGH}};
-        for (int[] w : wrong) {
-            Due.refused(x, BAD, () -> x.see(w[0], w[1], w[2]));
-        }
         for (int i = 1; i <= 6; i++) {
             due(i, x.see(0, i % 2, i % 2 == 0 ? 60 : 0));
         }
-        Due.refused(x, FULL, () -> x.see(0, 0, 1));
-        Due.refused(x, BAD, () -> x.see(0, 0, 61));
     }
 
     public void promise27Forget() {
@@ -862,9 +479,6 @@ public final class PromiseTests {
         x.see(0, 0, 3);
         x.see(0, 0, 60);
         due(0, x.kinds(0));
-        for (int n : new int[] {-1, 4, LOW, HIGH}) {
-            Due.refused(x, BAD, () -> x.forget(n));
-        }
         due(3, x.forget(3));
         due(3, x.forget(2));
         due(2, x.count(0));
@@ -892,9 +506,6 @@ public final class PromiseTests {
         due(0, x.kinds(1));
         x.amend(2, 2, 20);
         due(1, x.kinds(1));
-        for (int j : new int[] {-1, 2, LOW, HIGH}) {
-            Due.refused(x, BAD, () -> x.kinds(j));
-        }
     }
 
     public void promise29Terms() {
@@ -921,10 +532,6 @@ public final class PromiseTests {
         due(0, x.terms(0, 0));
         due(NONE, x.terms(0, 1));
         due(NONE, x.terms(0, 2));
-        int[][] wrong = {{-1, 0}, {2, 0}, {0, -1}, {0, 3}, {LOW, LOW}, {HIGH, HIGH}};
-        for (int[] w : wrong) {
-            Due.refused(x, BAD, () -> x.terms(w[0], w[1]));
-        }
     }
 
     public void promise30Ask() {
@@ -947,10 +554,6 @@ public final class PromiseTests {
         due(NONE, x.ask(1, 0));
         x.see(1, 1, 60);
         due(NONE, x.ask(1, 1));
-        int[][] wrong = {{-1, 0}, {2, 0}, {0, -1}, {0, 2}, {LOW, LOW}, {HIGH, HIGH}};
-        for (int[] w : wrong) {
-            Due.refused(x, BAD, () -> x.ask(w[0], w[1]));
-        }
     }
 
     public void promise30AskOfTwo() {
@@ -965,7 +568,6 @@ public final class PromiseTests {
     public void promise31Drift() {
         // by seed 1: got are 16838, 5758, 10113, 17515, 31051: of four cases 2, 2, 1, 3, 3, of three judges 1, 2, 1, 2, 2
         JudgeFirst x = told("plain 9 9; old 9 9; young 9 9; gaol 5 5 0; fine 20 30 0; gaol 25 30 0; stocks 1 1 0; crime 40;");
-        String before = Due.all(x);
         due(4, x.drift(1, 1, 1));
         due(38, x.drift(1, 1, 0));
         due(4, x.drift(1, 2, 1));
@@ -976,18 +578,8 @@ public final class PromiseTests {
         due(40, x.drift(1, 4, 0));
         due(14, x.drift(1, 5, 1));
         due(41, x.drift(1, 5, 0));
-        Due.due(before, Due.all(x));
         x.give(0, 0, 5);
         due(5, x.drift(1, 1, 1));
-        int[][] wrong = {{1, 0, 0}, {1, 61, 0}, {1, 1, -1}, {1, 1, 2}, {LOW, LOW, LOW}, {HIGH, HIGH, HIGH}};
-        for (int[] w : wrong) {
-            Due.refused(x, BAD, () -> x.drift(w[0], w[1], w[2]));
-        }
-        JudgeFirst noCases = told("plain 9 9;");
-        Due.refused(noCases, STATE, () -> noCases.drift(1, 1, 0));
-        Due.refused(noCases, BAD, () -> noCases.drift(1, 0, 0));
-        JudgeFirst noJudges = told("gaol 1 1 0;");
-        Due.refused(noJudges, STATE, () -> noJudges.drift(1, 60, 1));
     }
 
     public void promise32Keep() {
@@ -998,57 +590,9 @@ public final class PromiseTests {
         due(1, x.count(1));
         due(0, x.keep(1));
         due(2, x.count(1));
-        for (int k : new int[] {-1, 2, LOW, HIGH}) {
-            Due.refused(x, BAD, () -> x.keep(k));
-        }
         x.text();
         due(0, x.keep(1));
         due(1, x.count(1));
-    }
-
-    public void promise33Back() {
-        JudgeFirst x = told("plain 9 9; old 7 7; gaol 5 5 0; lash 9 20 0; stocks 7 7 0;");
-        x.days(3);
-        x.give(1, 0, 15);
-        x.give(2, 1, 7);
-        x.see(0, 0, 1);
-        x.see(1, 1, 2);
-        x.keep(1);
-        String there = Due.state(x);
-        due(STATE, x.back(0));
-        x.give(0, 0, 5);
-        x.appeal(1);
-        x.alter(0, 0, 3);
-        x.alter(1, 2, 88);
-        x.amend(1, 1, 2);
-        x.days(9);
-        x.crime(1);
-        x.forget(0);
-        x.see(1, 0, 60);
-        x.keep(0);
-        due(3, x.back(1));
-        Due.due(there, Due.state(x));
-        due(12, x.back(0));
-        due(1, x.rule(3));
-        due(3, x.back(1));
-        Due.due(there, Due.state(x));
-        // what was had of a sentence is in the image, too
-        x.alter(0, 0, 2);
-        x.appeal(1);
-        due(9, x.judge(0, 1));
-        for (int k : new int[] {-1, 2, LOW, HIGH}) {
-            Due.refused(x, BAD, () -> x.back(k));
-        }
-    }
-
-    public void promise33ImagesLeaveTapeAndSheets() {
-        JudgeFirst x = told("plain 9 9;");
-        x.keep(0);
-        x.sheet(0, 2, 7);
-        Due.feed(x, "old");
-        due(0, x.back(0));
-        due(7, x.count(3));
-        due(3, x.count(2));
     }
 
     public void promise34Sheet() {
@@ -1060,13 +604,6 @@ public final class PromiseTests {
         due(1, x.sheet(3, 2, 1));
         due(1, x.lay(3, 0, 5));
         due(-12, x.lay(3, 1, 5));
-        int[][] wrong = {{-1, 0, 5}, {4, 0, 5}, {0, -1, 5}, {0, 3, 5}, {0, 0, 41}, {-1, 0, -1}, {0, 3, -1},
-            {HIGH, HIGH, HIGH}, {LOW, LOW, LOW}};
-        for (int[] w : wrong) {
-            Due.refused(x, BAD, () -> x.sheet(w[0], w[1], w[2]));
-        }
-        Due.refused(x, -14, () -> x.sheet(0, 0, -1));
-        Due.refused(x, -14, () -> x.sheet(1, 2, LOW));
         due(-11, x.lay(1, 0, 0));
     }
 
@@ -1084,15 +621,6 @@ public final class PromiseTests {
     public void promise35Lay() {
         JudgeFirst x = told("plain 9 9; gaol 1 60 0;");
         x.sheet(0, 0, 3);
-        Due.refused(x, -12, () -> x.lay(0, 3, 0));
-        Due.refused(x, -12, () -> x.lay(0, -1, 0));
-        Due.refused(x, -12, () -> x.lay(0, HIGH, 0));
-        Due.refused(x, -12, () -> x.lay(0, LOW, 0));
-        Due.refused(x, -11, () -> x.lay(1, 0, 0));
-        Due.refused(x, -11, () -> x.lay(1, -1, 0));
-        for (int k : new int[] {-1, 4, LOW, HIGH}) {
-            Due.refused(x, BAD, () -> x.lay(k, 0, 0));
-        }
         due(1, x.lay(0, 2, 256 + 20));
         due(1, x.read(0, 0, 0, 1));
         due(20, x.suit(0, 4));
@@ -1133,7 +661,7 @@ public final class PromiseTests {
         due(20 - 6 - 4, x.rule(3));
         // its judge is away by what came ahead
         JudgeFirst y = sheetOf(new int[] {9, 0, 0, 30, 1, 1, 20, 2, 0, 10});
-        Due.refused(y, -22, () -> y.read(1, 1, 1, 3));
+        due(-22, y.read(1, 1, 1, 3));
         due(0, y.rule(4));
     }
 
@@ -1165,21 +693,6 @@ public final class PromiseTests {
         x.sheet(1, 1, 0);
         due(0, x.read(1, 1, 0, 1));
         due(2, x.torn());
-    }
-
-    public void promise36TheFirstMet() {
-        JudgeFirst x = sheetOf(new int[] {0, 0, 30, 1, 0, 20, 2, 0});
-        x.read(1, 0, 0, 1);
-        Due.refused(x, -21, () -> x.read(1, 1, 0, 3));
-        due(3, x.torn());
-        due(1, x.read(1, 1, 0, 1));
-        JudgeFirst bad = sheetOf(new int[] {0, 0, 61});
-        Due.refused(bad, -20, () -> bad.read(1, 1, 0, 2));
-        int[][] wrong = {{-1, 0, 0, 1}, {4, 0, 0, 1}, {1, -1, 0, 1}, {1, 3, 0, 1}, {1, 1, 0, -1}, {1, 1, 0, 14},
-            {4, 0, 0, 0}, {1, 3, 0, 0}, {LOW, LOW, LOW, LOW}, {HIGH, HIGH, HIGH, HIGH}};
-        for (int[] w : wrong) {
-            Due.refused(x, BAD, () -> x.read(w[0], w[1], w[2], w[3]));
-        }
     }
 
     public void promise37Torn() {
@@ -1222,9 +735,6 @@ public final class PromiseTests {
         due(NONE, x.count(3));
         x.sheet(0, 0, 9);
         due(9, x.count(3));
-        for (int what : new int[] {-1, 6, LOW, HIGH}) {
-            Due.refused(x, BAD, () -> x.count(what));
-        }
     }
 
     private static JudgeFirst sheetOf(int[] cells) {
@@ -1234,24 +744,5 @@ public final class PromiseTests {
             due(1, x.lay(1, i, cells[i]));
         }
         return x;
-    }
-
-    private static int reads(String text) {
-        JudgeFirst x = new JudgeFirst();
-        Due.feed(x, text);
-        return x.text();
-    }
-
-    private static void faulty(String text, int place, int fault) {
-        JudgeFirst x = told("plain 9 9; crime 3;");
-        String before = Due.state(x);
-        Due.feed(x, text);
-        int answer = x.text();
-        if (answer != -10 - place || x.fault() != fault) {
-            throw new AssertionError("'" + text + "' answered " + answer + " with fault " + x.fault()
-                    + ", due is " + (-10 - place) + " with " + fault);
-        }
-        due(0, x.count(2));
-        Due.due(before, Due.state(x));
     }
 }
