@@ -75,7 +75,31 @@ public final class LanguageTests extends Tests {
         for (Class<?> inside : JudgeFirst.class.getDeclaredClasses()) {
             long many = Arrays.stream(inside.getDeclaredFields()).filter(f -> !Modifier.isStatic(f.getModifiers())).count();
             due(1, many <= 20 ? 1 : 0);
+            Arrays.stream(inside.getDeclaredMethods()).forEach(m -> due(1, m.getParameterCount() <= 7 ? 1 : 0));
         }
+        Arrays.stream(JudgeFirst.class.getDeclaredMethods()).forEach(m -> due(1, m.getParameterCount() <= 7 ? 1 : 0));
+    }
+
+    public void rule11ShortMethods() throws IOException {
+        String[] lines = source().split("\n");
+        Pattern head = Pattern.compile("^((?: {4}){1,2})(?!if|for|while|switch)\\w[^;=]*\\) \\{$");
+        int methods = 0;
+        for (int i = 0; i < lines.length; i++) {
+            Matcher m = head.matcher(lines[i]);
+            if (m.matches()) {
+                int end = i;
+                while (!lines[end].equals(m.group(1) + "}")) {
+                    end++;
+                }
+                methods++;
+                due(1, end - i < 60 ? 1 : 0);
+            }
+        }
+        due(1, methods > 100 ? 1 : 0);
+    }
+
+    public void rule04SignsOf1To127() throws IOException {
+        due(1, Files.readString(Path.of("src/main/java/JudgeFirst.java")).chars().allMatch(c -> c >= 1 && c <= 127) ? 1 : 0);
     }
 
     /** Only constructors make anything: a call makes no object, so a run of any length fits its room. */

@@ -62,9 +62,10 @@ public final class SheetEdges extends Tests {
         }
         x.days(9);
         x.crime(1);
-        x.forget(1);
+        x.forget(0);
         x.see(1, 0, 60);
         x.see(0, 3, 0);
+        x.see(1, 1, 2);
     }
 
     public void p33AllIsAsTheImage() {
@@ -236,6 +237,11 @@ public final class SheetEdges extends Tests {
         for (int i = 0; i <= 5; i++) {
             int cell = i;
             laid().answers(1, x -> x.lay(1, cell, 7));
+        }
+        // beyond its own cells, though others have so many
+        for (int i = 6; i <= 41; i++) {
+            int cell = i;
+            laid().asks(-12, x -> x.lay(1, cell, 7));
         }
         Bench full = busy().then(x -> x.sheet(3, 0, 40));
         full.answers(1, x -> x.lay(3, 39, 7));

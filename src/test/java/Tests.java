@@ -13,9 +13,10 @@ abstract class Tests {
         return Due.told(text);
     }
 
-    /** Numbers outside of bounds: those beside them, and the farthest. */
+    /** Numbers outside of bounds: those beside them, those that fewer bits would bring back into them, the farthest. */
     static int[] beyond(int low, int high) {
-        return new int[] {low - 1, high + 1, LOW, HIGH};
+        return new int[] {low - 1, low - 2, high + 1, high + 2, low - 256, low + 256, low - 65536, low + 65536,
+            high - 256, high + 256, high - 65536, high + 65536, LOW, LOW + low, LOW + high, HIGH};
     }
 
     static String blanks(int many) {

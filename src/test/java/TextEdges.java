@@ -4,7 +4,7 @@ public final class TextEdges extends Tests {
     private static Bench stood() {
         return Bench.told("plain 9 9;old 8 7;stocks 5 9 0;lash 20 30 0;crime 33;").then(x -> x.see(0, 0, 1))
             .then(x -> x.give(0, 0, 6)).then(x -> x.keep(0)).then(x -> x.days(2)).then(x -> x.give(1, 1, 25))
-            .then(x -> x.keep(1)).laid(0, 0, 0, 0, 7).laid(2, 2, 0, 0, 20, 1, 0, 9);
+            .then(x -> x.keep(1)).laid(0, 0, 0, 0, 7).laid(2, 2, 0, 0, 20, 1, 0, 9).then(x -> x.docket(9, 0));
     }
 
     /** A text with a fault at the place that is marked by '|'. */
@@ -91,6 +91,24 @@ public final class TextEdges extends Tests {
         due(STATE, x.back(1));
         due(0, x.keep(0));
         due(0, x.keep(1));
+    }
+
+    public void p01ObjectsAreTheirOwn() {
+        JudgeFirst x = stood().set();
+        JudgeFirst y = new JudgeFirst();
+        Due.feed(y, "old 3 3;gaol 9 9 0;crime 3;");
+        y.text();
+        y.give(0, 0, 9);
+        y.days(9);
+        y.see(0, 0, 3);
+        y.keep(0);
+        y.keep(1);
+        y.sheet(0, 1, 9);
+        y.read(0, 0, 0, 1);
+        y.feed('?');
+        y.text();
+        Trace.alike(stood().set(), x);
+        Trace.alike(new JudgeFirst(), new JudgeFirst());
     }
 
     // ---- promise 2: "A byte (0 to 127) comes behind THE TAPE: how many it has. BAD; FULL: more than 160."
@@ -278,6 +296,20 @@ public final class TextEdges extends Tests {
         }
         due(BAD, x.judge(1, 0));
         due(BAD, x.suit(1, 0));
+    }
+
+    public void p04WhatWasReckonedIsNotTold() {
+        // dockets, drifts, sheets that are refused leave nothing for a text to find
+        int[] cells = {0, 0, 5, 1, 1, 20, 2, 1, 60, 3, 0, 8};
+        String text = "plain 9 9;old 9 9;stocks 5 9 0;lash 20 30 0;";
+        Bench due = Bench.nobody().laid(1, 1, cells).fed(text).then(JudgeFirst::text);
+        Bench x = Bench.told(text + "gaol 60 60 0;fine 9 9 0;").then(y -> y.see(1, 1, 2)).laid(1, 1, cells);
+        Bench docket = x.then(y -> y.docket(9, 0)).fed(text).then(JudgeFirst::text);
+        Trace.alike(due.set(), docket.set());
+        Bench drift = x.then(y -> y.drift(7, 60, 0)).fed(text).then(JudgeFirst::text);
+        Trace.alike(due.set(), drift.set());
+        Bench read = x.then(-23, y -> y.read(1, 1, 0, 4)).fed(text).then(JudgeFirst::text);
+        Trace.alike(due.set(), read.set());
     }
 
     public void p04CrimeAloneLeavesNobody() {
