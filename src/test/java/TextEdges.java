@@ -373,6 +373,8 @@ public final class TextEdges extends Tests {
         JudgeFirst x = taken(2, "   old    7   8   ;     gaol  1    2 3 ;   ");
         due(7, x.judge(0, 1));
         due(2, x.suit(0, 2));
+        due(9, taken(1, "plain" + blanks(90) + "9" + blanks(60) + "3;").judge(0, 1));
+        due(9, taken(1, blanks(70) + "crime" + blanks(70) + "9;").rule(3));
     }
 
     public void p04TokensAreAsLongAsMayBe() {
@@ -382,6 +384,10 @@ public final class TextEdges extends Tests {
         faulty(1, "plain |1234;");
         due(12, taken(1, "crime12;").rule(3));
         faulty(2, "plain 12|;");
+        faulty(2, "|" + "a".repeat(160));
+        faulty(2, "|" + "plain".repeat(30) + " 1 1;");
+        faulty(2, "crime |" + "z".repeat(150));
+        faulty(1, "plain 1 |" + "7".repeat(150));
         faulty(2, "plain 1 2 |3;");
     }
 
