@@ -45,9 +45,9 @@ public final class JudgeFirst {
             images[k] = new Image();
         }
         tape = new Tape();
-        docket = new Docket(trial);
+        docket = new Docket();
         roster = new Roster();
-        clues = new Clues(court);
+        clues = new Clues();
         sheets = new Sheet[SHEETS];
         for (int k = 0; k < sheets.length; k++) {
             sheets[k] = new Sheet();
@@ -231,7 +231,7 @@ public final class JudgeFirst {
             return BAD;
         }
         docket.seatAll(court);
-        docket.play(court, n);
+        docket.play(trial, court, n);
         switch (what) {
             case 0: return docket.heard;
             case 1: return trial.crime;
@@ -251,7 +251,7 @@ public final class JudgeFirst {
             return NONE;
         }
         docket.seatAll(court);
-        docket.play(court, n);
+        docket.play(trial, court, n);
         Suit then = trial.suitAt(c);
         return then == null ? NONE : then.by;
     }
@@ -291,7 +291,7 @@ public final class JudgeFirst {
         if (!within(n, 0, DAYS_AHEAD) || what != 0 && !ofPlace) {
             return BAD;
         }
-        docket.searchOrder(court, n);
+        docket.searchOrder(trial, court, n);
         if (what == 0) {
             return docket.mostHeard;
         }
@@ -304,11 +304,11 @@ public final class JudgeFirst {
             return BAD;
         }
         docket.seatAll(court);
-        docket.play(court, n);
+        docket.play(trial, court, n);
         int byAll = Integer.bitCount(docket.heard);
         for (int j = court.judgeCount - 1; j >= 0; j--) {
             docket.seatWithout(court, j);
-            docket.play(court, n);
+            docket.play(trial, court, n);
             if (Integer.bitCount(docket.heard) == byAll) {
                 return j;
             }
@@ -376,7 +376,7 @@ public final class JudgeFirst {
     }
 
     public int kinds(int j) {
-        return court.judgeAt(j) == null ? BAD : clues.kindsOf(j);
+        return court.judgeAt(j) == null ? BAD : Clues.kindsOf(court, j);
     }
 
     public int terms(int c, int what) {
@@ -384,12 +384,12 @@ public final class JudgeFirst {
         if (s == null || !within(what, 0, 2)) {
             return BAD;
         }
-        clues.gather();
+        clues.gather(court);
         int many = 0;
         int first = NONE;
         int last = NONE;
         for (int n = s.least; n <= s.most; n++) {
-            if (clues.allow(c, n)) {
+            if (clues.allow(court, c, n)) {
                 many++;
                 first = first == NONE ? n : first;
                 last = n;
@@ -405,7 +405,7 @@ public final class JudgeFirst {
         if (court.judgeAt(j) == null || !within(what, 0, 1)) {
             return BAD;
         }
-        int now = clues.kindsOf(j);
+        int now = Clues.kindsOf(court, j);
         int fewest = Integer.bitCount(now);
         int question = NONE;
         for (int n = 1; n <= MOST_SENTENCE; n++) {
@@ -537,7 +537,7 @@ public final class JudgeFirst {
         int old = (plain + 1) / 2;
         switch (kind) {
             case PLAIN: return plain;
-            case YOUNG: return Math.max(1, plain - 1);
+            case YOUNG: return plain > 1 ? plain - 1 : 1;
             case OLD: return old;
             default: return 2 * old;
         }
@@ -1260,9 +1260,8 @@ public final class JudgeFirst {
         }
     }
 
-    /** A docket played on a court lent for it, by those who are seated, as they are seated. */
+    /** A docket played on a court lent for it (at), by those who are seated, as they are seated. */
     private static final class Docket {
-        final Court at;
         final int[] seats;
         int seated;
         int heard;
@@ -1270,8 +1269,7 @@ public final class JudgeFirst {
         int mostHeard;
         int bestCode;
 
-        Docket(Court lent) {
-            at = lent;
+        Docket() {
             seats = new int[MOST_JUDGES];
             seated = 0;
         }
@@ -1310,14 +1308,14 @@ public final class JudgeFirst {
             }
         }
 
-        void searchOrder(Court from, int n) {
+        void searchOrder(Court at, Court from, int n) {
             int many = from.judgeCount;
             int unheard = from.suitCount - Integer.bitCount(from.heardBits());
             mostHeard = NONE;
             bestCode = 0;
             for (int code = 0; code < 1 << 2 * many && mostHeard < unheard; code++) {
                 if (seatBy(code, many)) {
-                    play(from, n);
+                    play(at, from, n);
                     int now = Integer.bitCount(heard);
                     if (now > mostHeard) {
                         mostHeard = now;
@@ -1327,12 +1325,12 @@ public final class JudgeFirst {
             }
         }
 
-        void play(Court from, int n) {
+        void play(Court at, Court from, int n) {
             at.copy(from);
             clearBehind = at.isClear() ? 0 : NONE;
             for (int d = 1; d <= n; d++) {
                 for (int i = 0; i < seated && i < seats.length; i++) {
-                    hearFirst(seats[i]);
+                    hearFirst(at, seats[i]);
                 }
                 at.nextDay();
                 if (clearBehind == NONE && at.isClear()) {
@@ -1342,7 +1340,7 @@ public final class JudgeFirst {
             heard = at.heardBits() & ~from.heardBits();
         }
 
-        private void hearFirst(int j) {
+        private static void hearFirst(Court at, int j) {
             boolean free = true;
             for (int c = 0; c < at.suitCount && free; c++) {
                 free = !at.sentenceToLeast(c, j);
@@ -1403,42 +1401,40 @@ public final class JudgeFirst {
 
     /** What is told by all that is seen. */
     private static final class Clues {
-        final Court court;
         // the kinds of each judge, so that they are not told anew for each sentence of a case
         final int[] gathered;
 
-        Clues(Court whose) {
-            court = whose;
+        Clues() {
             gathered = new int[MOST_JUDGES];
         }
 
-        void gather() {
+        void gather(Court court) {
             for (int j = 0; j < gathered.length; j++) {
-                gathered[j] = kindsOf(j);
+                gathered[j] = kindsOf(court, j);
             }
         }
 
-        int kindsOf(int j) {
+        static int kindsOf(Court court, int j) {
             int bits = 0;
             for (int kind = 0; kind < KINDS; kind++) {
-                if (couldBe(j, kind)) {
+                if (couldBe(court, j, kind)) {
                     bits |= 1 << kind;
                 }
             }
             return bits;
         }
 
-        private boolean couldBe(int j, int kind) {
+        private static boolean couldBe(Court court, int j, int kind) {
             for (int i = 0; i < court.sightCount; i++) {
                 Sight seen = court.sightAt(i);
-                if (seen != null && seen.judge == j && !someTenth(seen, kind)) {
+                if (seen != null && seen.judge == j && !someTenth(court, seen, kind)) {
                     return false;
                 }
             }
             return true;
         }
 
-        private boolean someTenth(Sight seen, int kind) {
+        private static boolean someTenth(Court court, Sight seen, int kind) {
             Suit s = court.suitAt(seen.suit);
             if (s == null) {
                 return false;
@@ -1452,16 +1448,16 @@ public final class JudgeFirst {
         }
 
         /** Whether a case may have been given n, by all that is seen of it and the kinds that are gathered. */
-        boolean allow(int c, int n) {
+        boolean allow(Court court, int c, int n) {
             for (int j = 0; j < court.judgeCount && j < gathered.length; j++) {
-                if (isSeen(j, c) && !someKind(gathered[j], j, c, n)) {
+                if (isSeen(court, j, c) && !someKind(court, gathered[j], j, c, n)) {
                     return false;
                 }
             }
             return true;
         }
 
-        private boolean isSeen(int j, int c) {
+        private static boolean isSeen(Court court, int j, int c) {
             for (int i = 0; i < court.sightCount; i++) {
                 Sight seen = court.sightAt(i);
                 if (seen != null && seen.judge == j && seen.suit == c) {
@@ -1471,16 +1467,16 @@ public final class JudgeFirst {
             return false;
         }
 
-        private boolean someKind(int kinds, int j, int c, int n) {
+        private static boolean someKind(Court court, int kinds, int j, int c, int n) {
             for (int kind = 0; kind < KINDS; kind++) {
-                if ((kinds >> kind & 1) != 0 && agrees(j, c, tenthBy(kind, n))) {
+                if ((kinds >> kind & 1) != 0 && agrees(court, j, c, tenthBy(kind, n))) {
                     return true;
                 }
             }
             return false;
         }
 
-        private boolean agrees(int j, int c, int t) {
+        private static boolean agrees(Court court, int j, int c, int t) {
             for (int i = 0; i < court.sightCount; i++) {
                 Sight seen = court.sightAt(i);
                 if (seen != null && seen.judge == j && seen.suit == c && seen.tenth != t) {

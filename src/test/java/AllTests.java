@@ -26,6 +26,7 @@ public final class AllTests {
         runAll(new PromiseTests());
         runAll(new CrossTests());
         runAll(new LanguageTests());
+        runAll(new ReadmeTests());
         System.out.println("tests of the project: " + passed + " passed, " + failed + " failed");
         if (args.length > 0) {
             Files.writeString(Path.of(args[0]), passed + " " + failed + "\n");

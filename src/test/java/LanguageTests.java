@@ -98,6 +98,48 @@ public final class LanguageTests extends Tests {
         due(1, methods > 100 ? 1 : 0);
     }
 
+    private static Program program() throws IOException {
+        return Program.read("src/main/java/JudgeFirst.java");
+    }
+
+    /** The library's functions count too. */
+    public void rule11CallsGoAtMostEightDeep() throws IOException {
+        Program program = program();
+        due(1, program.calls.size() > 100 ? 1 : 0);
+        for (String method : program.calls.keySet()) {
+            int depth = program.depth(method, Set.of());
+            if (depth > 8) {
+                throw new AssertionError(method + " goes " + depth + " deep");
+            }
+        }
+    }
+
+    public void rule08OnlyPrivateStaticMethodsRecur() throws IOException {
+        Program program = program();
+        program.calls.forEach((method, called) -> {
+            if (called.contains(method) && !program.privateStatic.contains(method) || program.recursByOthers(method)) {
+                throw new AssertionError(method + " recurs");
+            }
+        });
+    }
+
+    public void rule04NoOtherLibrary() throws IOException {
+        Set<String> library = new TreeSet<>();
+        program().calls.values().forEach(library::addAll);
+        library.removeIf(called -> called.startsWith("JudgeFirst"));
+        library.removeAll(Set.of("java.lang.Integer.bitCount(int)", "java.lang.Math.max(int,int)",
+            "java.lang.Math.min(int,int)", "java.lang.String.charAt(int)", "java.lang.String.length()"));
+        for (String other : library) {
+            throw new AssertionError("the program calls " + other);
+        }
+    }
+
+    public void rule12ConstructorsHandOutNothing() throws IOException {
+        for (String handedOut : program().handedOut) {
+            throw new AssertionError(handedOut);
+        }
+    }
+
     public void rule04SignsOf1To127() throws IOException {
         due(1, Files.readString(Path.of("src/main/java/JudgeFirst.java")).chars().allMatch(c -> c >= 1 && c <= 127) ? 1 : 0);
     }
